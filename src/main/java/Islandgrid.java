@@ -435,7 +435,6 @@ public final class Islandgrid {
     private void passOneTick() {
         time++;
         fleet.beginTick();
-        storage.beginTick();
         ledger.gridGave = 0;
         for (int island = 0; island < network.siteCount; island++) {
             if (network.islandOf[island] == island) {
@@ -451,6 +450,7 @@ public final class Islandgrid {
         ledger.servedSum += wanted;
         ledger.burntSum += made;
         if (made < wanted) {
+            // Within its bound, an island that is not tied lacks nothing that its stores can't give.
             ledger.takeFromGrid(storage.dischargeUpTo(island, wanted - made));
         } else {
             int spare = storage.chargeUpTo(island, made - wanted);
@@ -620,7 +620,6 @@ public final class Islandgrid {
         }
 
         void switchOff() {
-            left = 0;
             mode = OFF;
         }
 
@@ -662,7 +661,9 @@ public final class Islandgrid {
         private final Network network;
         final Generator[] all = new Generator[MOST_GENERATORS];
         int count;
-        /** The steps that each generator has taken for a demand. */
+        /** The steps of each generator that runs on the island in question, 0 for the others. */
+        private final int[] steps = new int[MOST_GENERATORS];
+        /** How many of these are taken for a demand. */
         private final int[] taken = new int[MOST_GENERATORS];
 
         Fleet(Network network) {
@@ -718,51 +719,56 @@ public final class Islandgrid {
             return sum;
         }
 
+        private void measureSteps(int island) {
+            for (int number = 0; number < count; number++) {
+                steps[number] = runsOn(number, island) ? all[number].steps() : 0;
+            }
+        }
+
         int shareFromOrder(int island, int demand, int number) {
-            return all[number].least + stepsWithin(island, number, demand - sumOfLeast(island));
+            measureSteps(island);
+            return all[number].least + stepsWithin(number, demand - sumOfLeast(island));
         }
 
         /**
          * How many steps of a generator are among the first ones of its island. Its own steps come in
          * their order, so that their number can be found by halves.
          */
-        private int stepsWithin(int island, int number, int first) {
-            int own = all[number].steps();
+        private int stepsWithin(int number, int first) {
             int within = 0;
             for (int leap = WIDEST_LEAP; leap > 0; leap /= 2) {
                 int tried = within + leap;
-                if (tried <= own && stepsAhead(island, number, tried - 1) < first) {
+                if (tried <= steps[number] && stepsAhead(number, tried - 1) < first) {
                     within = tried;
                 }
             }
             return within;
         }
 
-        /** How many steps of the island are taken ahead of a step of a generator, counted from 0. */
-        private int stepsAhead(int island, int number, int step) {
-            int own = all[number].steps();
+        /** How many steps of the island come ahead of a step of a generator, counted from 0. */
+        private int stepsAhead(int number, int step) {
+            int own = steps[number];
             if (own <= 0) {
                 return 0;
             }
             int sum = 0;
             for (int other = 0; other < count; other++) {
-                if (runsOn(other, island)) {
-                    int theirs = all[other].steps();
-                    // Of equal quotients, that of the lower number goes ahead.
-                    int ahead = other < number ? step * theirs / own + 1 : (step * theirs + own - 1) / own;
-                    sum += Math.min(theirs, ahead);
-                }
+                int reached = step * steps[other];
+                // Of equal quotients, that of the lower number comes ahead.
+                int ahead = other < number ? reached / own + 1 : (reached + own - 1) / own;
+                sum += Math.min(steps[other], ahead);
             }
             return sum;
         }
 
         int shareFromSteps(int island, int demand, int number) {
+            measureSteps(island);
             for (int each = 0; each < count; each++) {
                 taken[each] = 0;
             }
             boolean more = true;
             for (int sum = sumOfLeast(island); sum < demand && more; sum++) {
-                int next = nextToStep(island);
+                int next = nextToStep();
                 more = next != NONE;
                 if (more) {
                     taken[next]++;
@@ -771,11 +777,10 @@ public final class Islandgrid {
             return all[number].least + taken[number];
         }
 
-        private int nextToStep(int island) {
+        private int nextToStep() {
             int best = NONE;
             for (int number = 0; number < count; number++) {
-                if (runsOn(number, island) && taken[number] < all[number].steps()
-                        && (best == NONE || isLessLoaded(number, best))) {
+                if (taken[number] < steps[number] && (best == NONE || isLessLoaded(number, best))) {
                     best = number;
                 }
             }
@@ -784,22 +789,18 @@ public final class Islandgrid {
 
         /** Compares the quotients without dividing. */
         private boolean isLessLoaded(int number, int other) {
-            return taken[number] * all[other].steps() < taken[other] * all[number].steps();
+            return taken[number] * steps[other] < taken[other] * steps[number];
         }
 
         /** Lets the running generators of an island give for a demand, and returns what they give in all. */
         int giveFor(int island, int demand) {
+            // The steps are measured ahead of the first burning, since they depend on all the fuel.
+            measureSteps(island);
             int first = demand - sumOfLeast(island);
-            // All shares are found ahead of the first burning, since they depend on all the fuel.
-            for (int number = 0; number < count; number++) {
-                if (runsOn(number, island)) {
-                    taken[number] = stepsWithin(island, number, first);
-                }
-            }
             int sum = 0;
             for (int number = 0; number < count; number++) {
                 if (runsOn(number, island)) {
-                    all[number].burn(all[number].least + taken[number]);
+                    all[number].burn(all[number].least + stepsWithin(number, first));
                     sum += all[number].gave;
                 }
             }
@@ -853,12 +854,6 @@ public final class Islandgrid {
 
         private boolean isOn(int number, int island) {
             return network.islandOf[all[number].site] == island;
-        }
-
-        void beginTick() {
-            for (int number = 0; number < count; number++) {
-                all[number].gave = 0;
-            }
         }
 
         int sumOfSupply(int island) {
@@ -979,7 +974,7 @@ public final class Islandgrid {
             return lit;
         }
 
-        /** Powers are positive: if the sum up to a load is within the bound, so are those up to the loads ahead. */
+        /** Powers are positive: if the sum up to a load is within the bound, so are those of the loads ahead. */
         boolean keeps(Load load, int bound) {
             return bound == NO_BOUND || sumUpTo(load) <= bound;
         }

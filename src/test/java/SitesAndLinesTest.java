@@ -278,6 +278,12 @@ public final class SitesAndLinesTest {
         sameIslands("one line of two", crossed, 0, 1, 0, 3, 3, 1);
         crossed.open(4);
         sameIslands("no line of two", crossed, 0, 1, 2, 3, 3, 1);
+        Islandgrid full = Scenes.full();
+        sameIslands("a full grid", full, 0, 0, 0, 3, 3, 5);
+        full.open(0);
+        full.setPhase(5, 0);
+        full.close(7);
+        sameIslands("a full grid, closed by its last line", full, 0, 1, 1, 3, 3, 0);
         Check.same("islands of a new grid", new Islandgrid().islands(), 0);
         Check.refused("island of no site", NO_INDEX, Scenes::running, g -> g.island(1));
         Check.refused("island of a site below", NO_INDEX, Scenes::full, g -> g.island(-1));

@@ -17,6 +17,7 @@ public final class SupplyAndSharesTest {
         promise34Behind();
         promises35And36Share();
         promises35And36ShareOfOneIsland();
+        promises35And36ShareOfTooLittleFuel();
         promises35And36ShareRefuses();
         Check.finish("SupplyAndSharesTest");
     }
@@ -171,8 +172,14 @@ public final class SupplyAndSharesTest {
         Check.same("barrier of the one between", grid.barrier(0), 1);
         grid.setReserve(50);
         Check.same("barrier of all", grid.barrier(1), 4);
+        grid.setReserve(30);
+        grid.setRank(0, 1);
+        Check.same("barrier of the number 0", grid.barrier(3), 0);
+        grid.setReserve(50);
         grid.setRank(2, 1);
-        Check.same("barrier of the lowest number", grid.barrier(4), 2);
+        Check.same("barrier of the lowest number", grid.barrier(4), 0);
+        grid.setRank(0, 2);
+        Check.same("barrier of the next number", grid.barrier(4), 2);
         Supplier<Islandgrid> scene = SupplyAndSharesTest::ordered;
         Check.refused("barrier of a load that is kept", NO_ELEMENT, scene, g -> g.barrier(0));
         Check.refused("barrier on the tied island", NO_ELEMENT, () -> {
@@ -240,12 +247,20 @@ public final class SupplyAndSharesTest {
         Islandgrid grid = two(2, 100, 4, 100);
         sameShares(grid, 0, 0, 1, 1, 1, 2, 2, 2, 2);
         sameShares(grid, 1, 0, 0, 1, 2, 2, 3, 4, 4);
+        Check.same("share, the first call for one", two(2, 100, 4, 100).share(0, 3, 1), 2);
+        Check.same("shareBySteps, the first call for one", two(2, 100, 4, 100).shareBySteps(0, 3, 1), 2);
         Islandgrid turned = two(4, 100, 2, 100);
         sameShares(turned, 0, 0, 1, 1, 2, 3, 3, 4, 4);
         sameShares(turned, 1, 0, 0, 1, 1, 1, 2, 2, 2);
         Islandgrid byFuel = two(200, 4, 100, 2);
         sameShares(byFuel, 0, 0, 1, 1, 2, 3, 3, 4, 4);
         sameShares(byFuel, 1, 0, 0, 1, 1, 1, 2, 2, 2);
+        Islandgrid thirds = two(3, 100, 2, 100);
+        sameShares(thirds, 0, 0, 1, 1, 2, 2, 3, 3);
+        sameShares(thirds, 1, 0, 0, 1, 1, 2, 2, 2);
+        Islandgrid oneStep = two(4, 100, 1, 100);
+        sameShares(oneStep, 0, 0, 1, 1, 2, 3, 4, 4);
+        sameShares(oneStep, 1, 0, 0, 1, 1, 1, 1, 1);
         Islandgrid great = two(200, 9999, 100, 9999);
         sameShare(great, 0, 150, 0, 100);
         sameShare(great, 0, 150, 1, 50);
@@ -282,13 +297,25 @@ public final class SupplyAndSharesTest {
         sameShare(grid, 2, 4, 2, 5);
         sameShare(grid, 2, 60, 2, 60);
         sameShare(grid, 2, 91, 2, 90);
-        Islandgrid tooShort = Scenes.sites(1);
-        tooShort.addGenerator(0, 10, 50, 0, 50);
-        tooShort.start(0);
-        tooShort.addLoad(0, 45, 1);
-        tooShort.pass(1);
-        Check.same("it runs with the fuel 5", tooShort.state(0), 'r');
-        sameShare(tooShort, 0, 45, 0, 10);
+    }
+
+    /** One that still runs, but has less fuel than its least power, gives that first and can't give more. */
+    private static void promises35And36ShareOfTooLittleFuel() {
+        Islandgrid grid = Scenes.sites(1);
+        grid.addGenerator(0, 10, 50, 0, 50);
+        grid.addGenerator(0, 0, 40, 0, 9999);
+        grid.start(0);
+        grid.addLoad(0, 45, 1);
+        grid.pass(1);
+        Check.same("it runs", grid.state(0), 'r');
+        Check.same("it has too little fuel", grid.fuel(0), 5);
+        grid.start(1);
+        sameShare(grid, 0, 0, 0, 10);
+        sameShare(grid, 0, 45, 0, 10);
+        sameShare(grid, 0, 10, 1, 0);
+        sameShare(grid, 0, 11, 1, 1);
+        sameShare(grid, 0, 45, 1, 35);
+        sameShare(grid, 0, 51, 1, 40);
     }
 
     /** The generator 0 runs, 1 is off, 2 warms up; 3 runs on another island. */
