@@ -25,12 +25,6 @@ public final class GeneratorsAndStoresTest {
         Check.finish("GeneratorsAndStoresTest");
     }
 
-    private static Islandgrid oneGenerator(int least, int greatest, int warmUp, int fuel) {
-        Islandgrid grid = Scenes.sites(2);
-        grid.addGenerator(1, least, greatest, warmUp, fuel);
-        return grid;
-    }
-
     private static void promise14AddGenerator() {
         Islandgrid grid = Scenes.sites(2);
         Check.same("addGenerator, the least values", grid.addGenerator(0, 0, 1, 0, 0), 0);
@@ -53,7 +47,7 @@ public final class GeneratorsAndStoresTest {
     }
 
     private static void promise14AddGeneratorRefuses() {
-        Supplier<Islandgrid> scene = () -> oneGenerator(1, 2, 0, 9);
+        Supplier<Islandgrid> scene = () -> Scenes.generator(1, 2, 0, 9);
         Check.refused("least power below", BAD_ARGUMENT, scene, g -> g.addGenerator(0, -1, 50, 0, 10));
         Check.refused("least power above", BAD_ARGUMENT, scene, g -> g.addGenerator(0, 101, 150, 0, 10));
         Check.refused("greatest power below", BAD_ARGUMENT, scene, g -> g.addGenerator(0, 0, 0, 0, 10));
@@ -76,7 +70,7 @@ public final class GeneratorsAndStoresTest {
     }
 
     private static void promise15Start() {
-        Islandgrid grid = oneGenerator(10, 50, 3, 10);
+        Islandgrid grid = Scenes.generator(10, 50, 3, 10);
         Check.same("start", grid.start(0), 3);
         Check.same("state behind start", grid.state(0), 'w');
         Check.same("toGo behind start", grid.toGo(0), 3);
@@ -86,40 +80,31 @@ public final class GeneratorsAndStoresTest {
         grid.pass(1);
         Check.same("state behind three ticks", grid.state(0), 'r');
         Check.same("it gives in that tick", grid.given(0), 10);
-        Islandgrid atOnce = oneGenerator(10, 50, 0, 100);
+        Islandgrid atOnce = Scenes.generator(10, 50, 0, 100);
         Check.same("start without a warm-up", atOnce.start(0), 0);
         Check.same("state without a warm-up", atOnce.state(0), 'r');
         Check.same("bound without a warm-up", atOnce.bound(1), 50);
-        Check.same("start without fuel, least power 0", oneGenerator(0, 50, 0, 0).start(0), 0);
-    }
-
-    /** Its generator runs, and has less fuel than its least power. */
-    private static Islandgrid shortButRunning() {
-        Islandgrid grid = oneGenerator(10, 50, 0, 50);
-        grid.start(0);
-        grid.addLoad(1, 45, 1);
-        grid.pass(1);
-        return grid;
+        Check.same("start without fuel, least power 0", Scenes.generator(0, 50, 0, 0).start(0), 0);
     }
 
     private static void promise15StartRefuses() {
         Supplier<Islandgrid> warming = () -> {
-            Islandgrid grid = oneGenerator(10, 50, 3, 10);
+            Islandgrid grid = Scenes.generator(10, 50, 3, 10);
             grid.start(0);
             return grid;
         };
         Check.refused("start of one that runs", BAD_STATE, Scenes::running, g -> g.start(0));
         Check.refused("start of one that warms up", BAD_STATE, warming, g -> g.start(0));
-        Check.refused("start with too little fuel", NO_ELEMENT, () -> oneGenerator(10, 50, 3, 9), g -> g.start(0));
+        Check.refused("start with too little fuel", NO_ELEMENT, () -> Scenes.generator(10, 50, 3, 9), g -> g.start(0));
         Check.refused("start of one that runs with too little fuel", BAD_STATE,
-                GeneratorsAndStoresTest::shortButRunning, g -> g.start(0));
+                Scenes::shortOfFuel, g -> g.start(0));
         Check.refused("start of no generator", NO_INDEX, Scenes::running, g -> g.start(1));
         Check.refused("start of one below", NO_INDEX, Scenes::full, g -> g.start(-1));
         Check.refused("start of one above", NO_INDEX, Scenes::full, g -> g.start(6));
     }
 
     private static void promise16Stop() {
-        Islandgrid grid = oneGenerator(10, 50, 2, 500);
+        Islandgrid grid = Scenes.generator(10, 50, 2, 500);
         grid.start(0);
         grid.pass(1);
         Check.same("stop of one that warms up", grid.stop(0), 500);
@@ -133,7 +118,7 @@ public final class GeneratorsAndStoresTest {
         grid.pass(1);
         Check.same("fuel behind stop", grid.fuel(0), 480);
         Check.same("given in a tick behind stop", grid.given(0), 0);
-        Check.refused("stop of one that is off", BAD_STATE, () -> oneGenerator(1, 2, 3, 4), g -> g.stop(0));
+        Check.refused("stop of one that is off", BAD_STATE, () -> Scenes.generator(1, 2, 3, 4), g -> g.stop(0));
         Check.refused("stop of one of many that is off", BAD_STATE, Scenes::full, g -> g.stop(5));
         Check.refused("stop of no generator", NO_INDEX, Scenes::running, g -> g.stop(1));
         Check.refused("stop of one below", NO_INDEX, Scenes::full, g -> g.stop(-1));
@@ -165,8 +150,8 @@ public final class GeneratorsAndStoresTest {
     }
 
     private static void promise17StartNextRefuses() {
-        Supplier<Islandgrid> tooShort = () -> oneGenerator(20, 99, 0, 19);
-        Supplier<Islandgrid> other = () -> oneGenerator(20, 99, 0, 100);
+        Supplier<Islandgrid> tooShort = () -> Scenes.generator(20, 99, 0, 19);
+        Supplier<Islandgrid> other = () -> Scenes.generator(20, 99, 0, 100);
         Check.refused("startNext, too little fuel", NO_ELEMENT, tooShort, g -> g.startNext(1));
         Check.refused("startNext on another island", NO_ELEMENT, other, g -> g.startNext(0));
         Check.refused("startNext, it runs", NO_ELEMENT, Scenes::running, g -> g.startNext(0));
@@ -178,7 +163,7 @@ public final class GeneratorsAndStoresTest {
 
     /** Its generator has the fuel 99990. */
     private static Islandgrid almostFull() {
-        Islandgrid grid = oneGenerator(1, 2, 0, 9999);
+        Islandgrid grid = Scenes.generator(1, 2, 0, 9999);
         for (int time = 0; time < 9; time++) {
             grid.refuel(0, 9999);
         }
@@ -192,7 +177,7 @@ public final class GeneratorsAndStoresTest {
     }
 
     private static void promise18Refuel() {
-        Islandgrid grid = oneGenerator(10, 50, 1, 0);
+        Islandgrid grid = Scenes.generator(10, 50, 1, 0);
         Check.same("refuel by the least", grid.refuel(0, 1), 1);
         Check.same("refuel by the greatest", grid.refuel(0, 9999), 10000);
         Check.same("fuel behind refuel", grid.fuel(0), 10000);
@@ -217,7 +202,7 @@ public final class GeneratorsAndStoresTest {
     }
 
     private static void promise19State() {
-        Islandgrid grid = oneGenerator(10, 50, 2, 25);
+        Islandgrid grid = Scenes.generator(10, 50, 2, 25);
         Check.same("state at first", grid.state(0), 'o');
         grid.start(0);
         Check.same("state behind start", grid.state(0), 'w');
@@ -230,14 +215,14 @@ public final class GeneratorsAndStoresTest {
         grid.pass(1);
         Check.same("state with too little fuel", grid.state(0), 'o');
         Check.same("fuel with too little fuel", grid.fuel(0), 5);
-        Islandgrid exact = oneGenerator(10, 50, 0, 20);
+        Islandgrid exact = Scenes.generator(10, 50, 0, 20);
         exact.start(0);
         exact.pass(2);
         Check.same("state behind two ticks with just enough fuel", exact.state(0), 'r');
         Check.same("fuel behind these", exact.fuel(0), 0);
         exact.pass(1);
         Check.same("state without fuel", exact.state(0), 'o');
-        Islandgrid idle = oneGenerator(0, 50, 0, 0);
+        Islandgrid idle = Scenes.generator(0, 50, 0, 0);
         idle.start(0);
         idle.pass(3);
         Check.same("state without fuel, least power 0", idle.state(0), 'r');
@@ -261,17 +246,17 @@ public final class GeneratorsAndStoresTest {
     }
 
     private static void promise21ToGo() {
-        Islandgrid grid = oneGenerator(10, 50, 9, 25);
+        Islandgrid grid = Scenes.generator(10, 50, 9, 25);
         grid.start(0);
         for (int left = 9; left > 0; left--) {
             Check.same("toGo", grid.toGo(0), left);
             grid.pass(1);
         }
         Check.same("toGo behind the warm-up", Check.outcome(grid, g -> g.toGo(0)), "throws.NoSuchElementException");
-        Check.refused("toGo of one that is off", NO_ELEMENT, () -> oneGenerator(1, 2, 3, 4), g -> g.toGo(0));
+        Check.refused("toGo of one that is off", NO_ELEMENT, () -> Scenes.generator(1, 2, 3, 4), g -> g.toGo(0));
         Check.refused("toGo of one that runs", NO_ELEMENT, Scenes::running, g -> g.toGo(0));
         Check.refused("toGo of one that was stopped", NO_ELEMENT, () -> {
-            Islandgrid stopped = oneGenerator(1, 2, 3, 4);
+            Islandgrid stopped = Scenes.generator(1, 2, 3, 4);
             stopped.start(0);
             stopped.stop(0);
             return stopped;
@@ -303,7 +288,7 @@ public final class GeneratorsAndStoresTest {
     }
 
     private static void promise23Charge() {
-        Islandgrid grid = oneGenerator(30, 30, 0, 60);
+        Islandgrid grid = Scenes.generator(30, 30, 0, 60);
         grid.addStore(1, 50, 20);
         grid.addStore(1, 999, 99);
         Check.same("charge at first", grid.charge(0), 0);

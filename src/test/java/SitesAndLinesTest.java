@@ -118,23 +118,15 @@ public final class SitesAndLinesTest {
         Check.refused("close of a closed line", BAD_STATE, Scenes::full, g -> g.close(0));
     }
 
-    private static Islandgrid pair(int phase, int other) {
-        Islandgrid grid = Scenes.sites(3);
-        grid.addLine(2, 1);
-        grid.setPhase(1, phase);
-        grid.setPhase(2, other);
-        return grid;
-    }
-
     private static void promise5CloseWithinTheWindow() {
-        Check.same("close, 10 apart", pair(100, 110).close(0), 2);
-        Check.same("close, 10 apart downwards", pair(110, 100).close(0), 2);
-        Check.same("close, 10 apart around the circle", pair(355, 5).close(0), 2);
-        Check.same("close, 10 apart around the circle downwards", pair(0, 350).close(0), 2);
-        Check.refused("close, 11 apart", NOT_FIT, () -> pair(100, 111), g -> g.close(0));
-        Check.refused("close, 11 apart downwards", NOT_FIT, () -> pair(111, 100), g -> g.close(0));
-        Check.refused("close, 11 apart around the circle", NOT_FIT, () -> pair(355, 6), g -> g.close(0));
-        Check.refused("close, half a circle apart", NOT_FIT, () -> pair(0, 180), g -> g.close(0));
+        Check.same("close, 10 apart", Scenes.phases(100, 110).close(0), 2);
+        Check.same("close, 10 apart downwards", Scenes.phases(110, 100).close(0), 2);
+        Check.same("close, 10 apart around the circle", Scenes.phases(355, 5).close(0), 2);
+        Check.same("close, 10 apart around the circle downwards", Scenes.phases(0, 350).close(0), 2);
+        Check.refused("close, 11 apart", NOT_FIT, () -> Scenes.phases(100, 111), g -> g.close(0));
+        Check.refused("close, 11 apart downwards", NOT_FIT, () -> Scenes.phases(111, 100), g -> g.close(0));
+        Check.refused("close, 11 apart around the circle", NOT_FIT, () -> Scenes.phases(355, 6), g -> g.close(0));
+        Check.refused("close, half a circle apart", NOT_FIT, () -> Scenes.phases(0, 180), g -> g.close(0));
     }
 
     /** The sites 1 and 2 are an island of the phase 50; the site 3 has another one. */
@@ -163,16 +155,8 @@ public final class SitesAndLinesTest {
         Check.refused("close to the told phase", NOT_FIT, () -> tiedAndOne(90), g -> g.close(0));
     }
 
-    private static Islandgrid closedRow() {
-        Islandgrid grid = Scenes.row();
-        for (int line = 0; line < 5; line++) {
-            grid.close(line);
-        }
-        return grid;
-    }
-
     private static void promise6Open() {
-        Islandgrid grid = closedRow();
+        Islandgrid grid = Scenes.closedRow();
         Check.same("open(2)", grid.open(2), 2);
         Check.same("island(2)", grid.island(2), 0);
         Check.same("island(5)", grid.island(5), 3);
@@ -207,7 +191,7 @@ public final class SitesAndLinesTest {
 
     private static void promise7Tie() {
         Check.same("tie of one site", Scenes.sites(1).tie(), 1);
-        Islandgrid grid = closedRow();
+        Islandgrid grid = Scenes.closedRow();
         grid.open(3);
         Check.same("tie of four sites", grid.tie(), 4);
         Check.same("islands behind tie", grid.islands(), 2);
@@ -227,7 +211,7 @@ public final class SitesAndLinesTest {
     }
 
     private static void promise8Untie() {
-        Islandgrid grid = closedRow();
+        Islandgrid grid = Scenes.closedRow();
         grid.tie();
         grid.open(4);
         grid.setPhase(0, 77);
@@ -258,7 +242,7 @@ public final class SitesAndLinesTest {
 
     private static void promises9To11Islands() {
         sameIslands("without lines", Scenes.row(), 0, 1, 2, 3, 4, 5);
-        sameIslands("a row", closedRow(), 0, 0, 0, 0, 0, 0);
+        sameIslands("a row", Scenes.closedRow(), 0, 0, 0, 0, 0, 0);
         Islandgrid backwards = Scenes.sites(6);
         for (int site = 5; site > 0; site--) {
             backwards.close(backwards.addLine(site, site - 1));
@@ -320,12 +304,12 @@ public final class SitesAndLinesTest {
     }
 
     private static void promise13Gap() {
-        Check.same("gap of 0 and 180", pair(0, 180).gap(0), 180);
-        Check.same("gap of 0 and 181", pair(0, 181).gap(0), 179);
-        Check.same("gap of 181 and 0", pair(181, 0).gap(0), 179);
-        Check.same("gap of 359 and 0", pair(359, 0).gap(0), 1);
-        Check.same("gap of 200 and 250", pair(200, 250).gap(0), 50);
-        Check.same("gap of 30 and 30", pair(30, 30).gap(0), 0);
+        Check.same("gap of 0 and 180", Scenes.phases(0, 180).gap(0), 180);
+        Check.same("gap of 0 and 181", Scenes.phases(0, 181).gap(0), 179);
+        Check.same("gap of 181 and 0", Scenes.phases(181, 0).gap(0), 179);
+        Check.same("gap of 359 and 0", Scenes.phases(359, 0).gap(0), 1);
+        Check.same("gap of 200 and 250", Scenes.phases(200, 250).gap(0), 50);
+        Check.same("gap of 30 and 30", Scenes.phases(30, 30).gap(0), 0);
         Check.same("gap of islands", pairAndOne(60).gap(2), 10);
         Check.same("gap of a closed line", pairAndOne(60).gap(1), 0);
         Check.same("gap at the tied island", tiedAndOne(93).gap(0), 93);
