@@ -20,7 +20,8 @@ public final class EdgesOfSitesAndLinesTest {
             for (int site = 0; site < sites; site++) {
                 Check.same("site " + site + " of " + sites, grid.island(site), site);
             }
-            Edges.throwsOn("the site behind the last one of " + sites, Edges.NO_INDEX, grid, g -> g.island(g.islands()));
+            int next = sites;
+            Edges.throwsOn("the site behind the last one of " + sites, Edges.NO_INDEX, grid, g -> g.island(next));
         }
     }
 
