@@ -55,7 +55,7 @@ public final class LanguageTest {
         Check.same("imports", found("^import ([^;]+);").toString(), "[java.util.NoSuchElementException]");
     }
 
-    /** The same names of a class and of a method or field of the library would hide what is used. */
+    /** Of the library, what these names do not cover (Object, Thread, Random ..) is not used. */
     static void rules3And4OnlyTheTypesThatAreListed() {
         Set<String> own = new TreeSet<>();
         for (Class<?> each : allClasses()) {
@@ -112,7 +112,7 @@ public final class LanguageTest {
         }
     }
 
-    /** The machine's own exceptions are not caught; those that a rule 6 class would catch too are not either. */
+    /** Neither the machine's own exceptions are caught by name, nor a class above them. */
     static void rule7NothingOfTheMachineIsCaught() {
         Set<String> machine = Set.of("ArrayIndexOutOfBoundsException", "NullPointerException",
                 "ClassCastException", "NegativeArraySizeException", "ArrayStoreException", "RuntimeException",
